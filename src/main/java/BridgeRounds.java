@@ -1234,8 +1234,7 @@ public final class BridgeRounds {
 
         private boolean readRoad(State state) {
             skipBlanks();
-            // At the end of the text a number is missing, whether there is room or not.
-            if (at < length && state.roads.many + roads >= MAX_ROADS) {
+            if (state.roads.many + roads >= MAX_ROADS) {
                 return fail(at);
             }
             int towns = state.roads.towns;

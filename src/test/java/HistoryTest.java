@@ -8,6 +8,8 @@ final class HistoryTest {
         atMostFive();
         afterUndo();
         wholeState();
+        oldLines();
+        nothingLeftBehind();
         textStays();
         CHECK.end();
     }
@@ -89,6 +91,44 @@ final class HistoryTest {
         CHECK.due("carries no bridge", x.road(8, 3), BridgeRounds.NONE);
         CHECK.due("the next component", x.addComponent(1, 0, 9, 0), 0);
         CHECK.due("rests on nothing", x.component(1, 0, 5), 0);
+    }
+
+    /** Lines that were written over come back. */
+    private static void oldLines() {
+        BridgeRounds x = Fixtures.frame();
+        x.addLine(0, 1, 2);
+        x.addBridge(6);
+        x.addComponent(1, 2, 5, 5);
+        x.clearLines();
+        x.addLine(1, 0, 9);
+        CHECK.due("undo()", x.undo(), 4);
+        CHECK.due("undo()", x.undo(), 3);
+        CHECK.due("the bridge of the line", x.line(0, 0), 0);
+        CHECK.due("its component", x.line(0, 1), 1);
+        CHECK.due("its points", x.line(0, 2), 2);
+    }
+
+    /** What undo takes away plays no part any more. */
+    private static void nothingLeftBehind() {
+        BridgeRounds x = Fixtures.towns(3);
+        x.addRoad(0, 1, 5);
+        x.addRoad(1, 2, 5);
+        x.undo();
+        CHECK.due("the road is gone", x.way(1, 2, 1), BridgeRounds.NONE);
+        CHECK.due("the road is gone for loads", x.heaviest(1, 2), BridgeRounds.NONE);
+        x.addBridge(0);
+        x.addComponent(0, 0, 9, 0);
+        x.addComponent(0, 0, 8, 0);
+        x.rest(0, 0, 1);
+        x.rest(0, 1, BridgeRounds.NONE);
+        CHECK.due("the bridge bears", x.bridge(0, 2), 8);
+        x.undo();
+        x.undo();
+        x.undo();
+        CHECK.due("the deck rests on nothing", x.component(0, 0, 5), 0);
+        x.addComponent(0, 3, 7, 1);
+        CHECK.due("the new one rests on nothing", x.component(0, 1, 5), 0);
+        CHECK.due("the new one has its rate", x.component(0, 1, 3), 1);
     }
 
     private static void textStays() {

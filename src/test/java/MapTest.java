@@ -398,5 +398,11 @@ final class MapTest {
         CHECK.due("rating 0 is not weak", x.weak(0), 0);
         x.setRating(0, 5, 1);
         CHECK.due("rating 1 is weak", x.weak(0), 32);
+        x.setRating(0, 0, 1);
+        CHECK.due("a deck with 1 is weak", x.weak(0), 1 + 32);
+        x.setRating(0, 0, 0);
+        CHECK.due("a deck with 0 is not weak", x.weak(0), 0);
+        x.rest(0, 0, NONE);
+        CHECK.due("nor on the ground", x.weak(0), 0);
     }
 }

@@ -8,6 +8,8 @@ final class ModelTest {
 
     private long seed;
     private int run;
+    private boolean fewLengths;
+    private int mostRoads;
     private BridgeRounds x;
     private Model m;
 
@@ -40,10 +42,11 @@ final class ModelTest {
         return (int) ((seed >>> 33) % end);
     }
 
-    /** Mostly from least to most, now and then just outside. */
+    /** Mostly from least to most, now and then outside. */
     private int from(int least, int most) {
         if (below(60) == 0) {
-            return below(2) == 0 ? least - 1 : most + 1;
+            int[] outside = {least - 1, most + 1, least - 1, most + 1, Integer.MIN_VALUE, Integer.MAX_VALUE};
+            return outside[below(outside.length)];
         }
         return least + below(most - least + 1);
     }
@@ -67,11 +70,12 @@ final class ModelTest {
     private void calls() {
         int towns = 2 + below(9);
         due("addTowns(" + towns + ")", x.addTowns(towns), m.addTowns(towns));
-        boolean few = below(2) == 0;
+        fewLengths = below(2) == 0;
+        mostRoads = below(3) == 0 ? 20 : 2 + below(12);
         for (int call = 0; call < CALLS; call++) {
             int kind = below(100);
             if (call < 80 || kind < 8) {
-                build(few ? 5 : 1);
+                build();
             } else if (kind < 22) {
                 change();
             } else if (kind < 45) {
@@ -89,9 +93,8 @@ final class ModelTest {
         due("digest() at the end", x.digest(), m.digest());
     }
 
-    private void build(int step) {
+    private void build() {
         int b = bridge();
-        int c = component(b);
         switch (below(9)) {
             case 0:
                 int many = from(1, 10);
@@ -100,12 +103,7 @@ final class ModelTest {
             case 1:
             case 2:
             case 3:
-                int one = town();
-                int other = town();
-                // few different lengths make many ways as short
-                int length = step == 1 ? from(1, 99) : step * from(1, 4);
-                due("addRoad(" + one + ", " + other + ", " + length + ")", x.addRoad(one, other, length),
-                        m.addRoad(one, other, length));
+                addRoad();
                 break;
             case 4:
                 int road = from(0, Math.max(0, m.count(1) - 1));
@@ -113,17 +111,51 @@ final class ModelTest {
                 break;
             case 5:
             case 6:
-                int kind = from(0, 3);
-                int rating = from(below(2) * 5, 9);
-                int rate = from(0, 60);
-                due("addComponent(" + b + ", " + kind + ", " + rating + ", " + rate + ")",
-                        x.addComponent(b, kind, rating, rate), m.addComponent(b, kind, rating, rate));
+                addComponent(b);
                 break;
             default:
-                int on = below(3) == 0 ? -1 : from(Math.max(0, c), Math.max(Math.max(0, c), m.bridge(b, 1) - 1));
-                due("rest(" + b + ", " + c + ", " + on + ")", x.rest(b, c, on), m.rest(b, c, on));
+                int c = component(b);
+                rest(b, c, below(3) == 0 ? -1 : from(Math.max(0, c), Math.max(Math.max(0, c), m.bridge(b, 1) - 1)));
                 break;
         }
+    }
+
+    private void addRoad() {
+        if (m.count(1) >= mostRoads && below(10) > 0) {
+            return;
+        }
+        int one = town();
+        int other = town();
+        // few different lengths make many ways as short
+        int length = fewLengths ? 5 * from(1, 4) : from(1, 99);
+        due("addRoad(" + one + ", " + other + ", " + length + ")", x.addRoad(one, other, length),
+                m.addRoad(one, other, length));
+    }
+
+    /** Mostly it rests on the ground then, and a lower one rests on it. */
+    private void addComponent(int b) {
+        int kind = from(0, 3);
+        int rating = from(below(2) * 5, 9);
+        int rate = from(0, below(2) == 0 ? 10 : 60);
+        int c = m.addComponent(b, kind, rating, rate);
+        due("addComponent(" + b + ", " + kind + ", " + rating + ", " + rate + ")", x.addComponent(b, kind, rating, rate), c);
+        if (c >= 0 && below(4) > 0) {
+            rest(b, c, -1);
+        }
+        if (c > 0 && below(4) > 0) {
+            int lower = below(c);
+            rest(b, lower, c);
+            if (m.component(b, lower, 5) >= 64 && below(2) == 0) {
+                rest(b, lower, -1);
+            }
+        }
+        if (below(2) == 0) {
+            due("inspect(" + b + ")", x.inspect(b), m.inspect(b));
+        }
+    }
+
+    private void rest(int b, int c, int on) {
+        due("rest(" + b + ", " + c + ", " + on + ")", x.rest(b, c, on), m.rest(b, c, on));
     }
 
     private void change() {
@@ -146,8 +178,7 @@ final class ModelTest {
                 due("undo()", x.undo(), m.undo());
                 break;
             default:
-                int on = below(2) == 0 ? -1 : from(0, 5);
-                due("rest(" + b + ", " + c + ", " + on + ")", x.rest(b, c, on), m.rest(b, c, on));
+                rest(b, c, below(4) == 0 ? -1 : from(0, 5));
                 break;
         }
     }

@@ -269,6 +269,13 @@ final class RepairsTest {
         x.addLine(1, 0, 5);
         CHECK.due("its own line", x.ratingBehind(1), 8);
         CHECK.due("the first one", x.ratingBehind(0), 6);
+        CHECK.due("none of it is carried out", x.component(1, 0, 1), 3);
+        x.clearLines();
+        CHECK.due("lines that were removed", x.ratingBehind(1), 3);
+        CHECK.due("lines that were removed", x.ratingBehind(0), 2);
+        BridgeRounds y = Fixtures.frame();
+        y.pass(3);
+        CHECK.due("now, not a year later", y.ratingBehind(0), 7);
     }
 
     // Promise 30

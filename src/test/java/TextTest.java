@@ -98,6 +98,14 @@ final class TextTest {
             fault(text.substring(0, length) + "   ", whole ? NONE : length + 3);
         }
         fault(" ".repeat(100), 100);
+        // Bytes of a text that was longer are not there any more.
+        String longer = "1-2:05b";
+        for (int length = 0; length < longer.length(); length++) {
+            BridgeRounds x = withText(Fixtures.towns(5), longer);
+            x.clearText();
+            Fixtures.type(x, longer.substring(0, length));
+            CHECK.due("the first " + length + " bytes again", x.textFault(), length == 6 ? NONE : length == 5 ? 4 : length);
+        }
         fault(BridgeRounds::new, "", 0);
         fault(BridgeRounds::new, "  ", 2);
     }
@@ -237,6 +245,13 @@ final class TextTest {
             }
         }
         CHECK.due("no inspection", x.count(6), 0);
+        BridgeRounds y = withText(Fixtures.towns(4), text);
+        y.lay();
+        y.clearText();
+        Fixtures.type(y, "3-0:07;1-2:99b");
+        CHECK.due("lay() of another text", y.lay(), 5);
+        CHECK.due("a road without a bridge", y.road(3, 3), NONE);
+        CHECK.due("a road with a bridge", y.road(4, 3), 2);
         CHECK.due("the text stays", x.textFault(), NONE);
         CHECK.due("lay() again", x.lay(), 14);
         CHECK.due("six bridges", x.count(2), 6);

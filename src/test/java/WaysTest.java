@@ -219,5 +219,20 @@ final class WaysTest {
         x.close(3, true);
         CHECK.due("closed off", x.heaviest(0, 3), NONE);
         CHECK.due("behind it", x.heaviest(3, 4), 60);
+        // A long line in both directions, whichever town of a road was told first.
+        for (int told = 0; told < 2; told++) {
+            BridgeRounds line = Fixtures.towns(10);
+            for (int town = 0; town < 9; town++) {
+                line.addRoad(town + told, town + 1 - told, 9);
+            }
+            CHECK.due("along the line", line.heaviest(0, 9), 60);
+            CHECK.due("back along the line", line.heaviest(9, 0), 60);
+            Fixtures.bridgeOf(line, 5, 6);
+            CHECK.due("along the line, over a bridge", line.heaviest(0, 9), 28);
+            CHECK.due("back along the line, over a bridge", line.heaviest(9, 0), 28);
+        }
+        BridgeRounds most = Fixtures.roads(9, 20);
+        CHECK.due("with all roads", most.heaviest(0, 8), 60);
+        CHECK.due("with all roads", most.way(0, 4, 60), 11 + 12 + 13 + 14);
     }
 }

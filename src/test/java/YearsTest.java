@@ -214,6 +214,19 @@ final class YearsTest {
             CHECK.due("as near: 1 + 4 + 1 + 3 hours", z.ofRound(0, 9, 1), NONE);
             CHECK.due("as near: 1 + 4 + 1 + 4 hours", z.ofRound(0, 10, 1), 1);
         }
+        // The higher town is the nearer one, whichever was told first: from there on to the bridge 1.
+        for (int told = 0; told < 2; told++) {
+            BridgeRounds v = Fixtures.towns(4);
+            v.addRoad(1 + told, 2 - told, 5);
+            v.addRoad(0, 2, 10);
+            v.addRoad(2, 3, 30);
+            v.addBridge(0);
+            v.addBridge(2);
+            v.pass(1);
+            CHECK.due("from the higher town", v.ofRound(0, 9, 0), 0);
+            CHECK.due("from the higher town, 4 hours are left", v.ofRound(0, 9, 1), 1);
+            CHECK.due("from the higher town, 3 hours are left", v.ofRound(0, 8, 1), NONE);
+        }
         // The crew goes on from the nearer town, though the other one has the lower number.
         BridgeRounds w = Fixtures.towns(5);
         w.addRoad(4, 3, 10);
