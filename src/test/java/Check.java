@@ -62,6 +62,14 @@ final class Check {
         return digests;
     }
 
+    int passed() {
+        return passed;
+    }
+
+    int failed() {
+        return failed;
+    }
+
     void end() {
         System.out.println(passed + " passed, " + failed + " failed");
         if (failed != 0) {

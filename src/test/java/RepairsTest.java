@@ -23,26 +23,8 @@ final class RepairsTest {
         CHECK.end();
     }
 
-    /** The frame, three bidders, and so many lines of one point, for its components in turn. */
-    private static BridgeRounds lines(int many) {
-        BridgeRounds x = Fixtures.frame();
-        x.addBidder(10, 2, 4, 6, 8);
-        x.addBidder(0, 5, 5, 5, 5);
-        x.addBidder(30, 1, 1, 1, 1);
-        for (int i = 0; i < many; i++) {
-            x.addLine(0, i % 4, 1);
-        }
-        return x;
-    }
-
-    private static BridgeRounds noBidders() {
-        BridgeRounds x = Fixtures.frame();
-        x.addLine(0, 1, 1);
-        return x;
-    }
-
     private static BridgeRounds noLines() {
-        return lines(0);
+        return Fixtures.lines(0);
     }
 
     // Promise 23
@@ -71,28 +53,28 @@ final class RepairsTest {
     private static void addLine() {
         CHECK.recorded("the least", Fixtures::frame, x -> x.addLine(0, 0, 1), 0);
         CHECK.recorded("the most", Fixtures::frame, x -> x.addLine(0, 3, 9), 0);
-        CHECK.recorded("the next one, for the same component", () -> lines(1), x -> x.addLine(0, 0, 9), 1);
-        CHECK.recorded("the last one", () -> lines(7), x -> x.addLine(0, 0, 9), 7);
+        CHECK.recorded("the next one, for the same component", () -> Fixtures.lines(1), x -> x.addLine(0, 0, 9), 1);
+        CHECK.recorded("the last one", () -> Fixtures.lines(7), x -> x.addLine(0, 0, 9), 7);
         for (int bridge : new int[] {-1, 1, 6, MIN, MAX}) {
             CHECK.still("bridge " + bridge, Fixtures::frame, x -> x.addLine(bridge, 0, 0), BAD_INDEX);
-            CHECK.still("full, bridge " + bridge, () -> lines(8), x -> x.addLine(bridge, 0, 1), BAD_INDEX);
+            CHECK.still("full, bridge " + bridge, () -> Fixtures.lines(8), x -> x.addLine(bridge, 0, 1), BAD_INDEX);
         }
         for (int component : new int[] {-1, 4, 6, MIN, MAX}) {
             CHECK.still("component " + component, Fixtures::frame, x -> x.addLine(0, component, 0), BAD_INDEX);
         }
         for (int points : new int[] {0, 10, -1, MIN, MAX}) {
             CHECK.still("points " + points, Fixtures::frame, x -> x.addLine(0, 0, points), BAD_VALUE);
-            CHECK.still("full, points " + points, () -> lines(8), x -> x.addLine(0, 0, points), BAD_VALUE);
+            CHECK.still("full, points " + points, () -> Fixtures.lines(8), x -> x.addLine(0, 0, points), BAD_VALUE);
         }
-        CHECK.still("full", () -> lines(8), x -> x.addLine(0, 0, 1), FULL);
+        CHECK.still("full", () -> Fixtures.lines(8), x -> x.addLine(0, 0, 1), FULL);
     }
 
     // Promise 25
     private static void clearLines() {
-        CHECK.recorded("clearLines()", () -> lines(5), x -> x.clearLines(), 5);
-        CHECK.recorded("none", () -> lines(0), x -> x.clearLines(), 0);
+        CHECK.recorded("clearLines()", () -> Fixtures.lines(5), x -> x.clearLines(), 5);
+        CHECK.recorded("none", () -> Fixtures.lines(0), x -> x.clearLines(), 0);
         CHECK.recorded("on an empty map", BridgeRounds::new, x -> x.clearLines(), 0);
-        BridgeRounds x = lines(8);
+        BridgeRounds x = Fixtures.lines(8);
         x.clearLines();
         CHECK.due("no lines", x.count(3), 0);
         CHECK.due("no line 0", x.line(0, 0), BAD_INDEX);
@@ -105,12 +87,12 @@ final class RepairsTest {
     // Promise 26
     private static void line() {
         for (int line : new int[] {-1, 3, 8, MIN, MAX}) {
-            CHECK.still("line(" + line + ", 4)", () -> lines(3), x -> x.line(line, 4), BAD_INDEX);
+            CHECK.still("line(" + line + ", 4)", () -> Fixtures.lines(3), x -> x.line(line, 4), BAD_INDEX);
         }
         for (int what : new int[] {-1, 4, MIN, MAX}) {
-            CHECK.still("line(0, " + what + ")", () -> lines(3), x -> x.line(0, what), BAD_VALUE);
+            CHECK.still("line(0, " + what + ")", () -> Fixtures.lines(3), x -> x.line(0, what), BAD_VALUE);
         }
-        CHECK.still("without bidders", RepairsTest::noBidders, x -> x.line(0, 3), NONE);
+        CHECK.still("without bidders", Fixtures::noBidders, x -> x.line(0, 3), NONE);
         BridgeRounds x = Fixtures.bridges(2);
         x.addComponent(1, 3, 5, 0);
         x.addComponent(1, 2, 5, 0);
@@ -130,11 +112,11 @@ final class RepairsTest {
     // Promise 27
     private static void bidder() {
         for (int bidder : new int[] {-1, 3, MIN, MAX}) {
-            CHECK.still("bidder(" + bidder + ", 7)", () -> lines(3), x -> x.bidder(bidder, 7), BAD_INDEX);
+            CHECK.still("bidder(" + bidder + ", 7)", () -> Fixtures.lines(3), x -> x.bidder(bidder, 7), BAD_INDEX);
         }
-        CHECK.still("no bidders", RepairsTest::noBidders, x -> x.bidder(0, 0), BAD_INDEX);
+        CHECK.still("no bidders", Fixtures::noBidders, x -> x.bidder(0, 0), BAD_INDEX);
         for (int what : new int[] {-1, 7, MIN, MAX}) {
-            CHECK.still("bidder(0, " + what + ")", () -> lines(3), x -> x.bidder(0, what), BAD_VALUE);
+            CHECK.still("bidder(0, " + what + ")", () -> Fixtures.lines(3), x -> x.bidder(0, what), BAD_VALUE);
         }
         BridgeRounds x = Fixtures.frame();
         x.addBidder(30, 11, 12, 13, 14);
@@ -170,10 +152,10 @@ final class RepairsTest {
     // Promise 28
     private static void award() {
         CHECK.still("on an empty map", BridgeRounds::new, x -> x.award(), 0);
-        CHECK.still("without lines", () -> lines(0), x -> x.award(), 0);
-        CHECK.still("without bidders", RepairsTest::noBidders, x -> x.award(), NONE);
-        CHECK.still("by the bidder without a fee", () -> lines(4), x -> x.award(), 20);
-        CHECK.still("the cheap one is worth his fee", () -> lines(8), x -> x.award(), 38);
+        CHECK.still("without lines", () -> Fixtures.lines(0), x -> x.award(), 0);
+        CHECK.still("without bidders", Fixtures::noBidders, x -> x.award(), NONE);
+        CHECK.still("by the bidder without a fee", () -> Fixtures.lines(4), x -> x.award(), 20);
+        CHECK.still("the cheap one is worth his fee", () -> Fixtures.lines(8), x -> x.award(), 38);
         BridgeRounds x = Fixtures.frame();
         x.addBidder(999, 99, 99, 99, 99);
         for (int i = 0; i < 8; i++) {
@@ -249,7 +231,7 @@ final class RepairsTest {
         }
         CHECK.still("without components", () -> Fixtures.bridges(1), x -> x.ratingBehind(0), 0);
         CHECK.still("without lines", Fixtures::frame, x -> x.ratingBehind(0), 7);
-        CHECK.still("without bidders", RepairsTest::noBidders, x -> x.ratingBehind(0), 8);
+        CHECK.still("without bidders", Fixtures::noBidders, x -> x.ratingBehind(0), 8);
         BridgeRounds x = Fixtures.frame();
         x.addLine(0, 2, 3);
         CHECK.due("the other support", x.ratingBehind(0), 8);
@@ -280,10 +262,10 @@ final class RepairsTest {
 
     // Promise 30
     private static void repair() {
-        CHECK.recorded("repair()", () -> lines(4), x -> x.repair(), 20);
-        CHECK.recorded("without lines", () -> lines(0), x -> x.repair(), 0);
+        CHECK.recorded("repair()", () -> Fixtures.lines(4), x -> x.repair(), 20);
+        CHECK.recorded("without lines", () -> Fixtures.lines(0), x -> x.repair(), 0);
         CHECK.recorded("on an empty map", BridgeRounds::new, x -> x.repair(), 0);
-        CHECK.still("without bidders", RepairsTest::noBidders, x -> x.repair(), BAD_STATE);
+        CHECK.still("without bidders", Fixtures::noBidders, x -> x.repair(), BAD_STATE);
         BridgeRounds x = Fixtures.frame();
         x.inspect(0);
         x.pass(3);

@@ -26,15 +26,10 @@ final class TextTest {
         CHECK.end();
     }
 
-    private static BridgeRounds withText(BridgeRounds x, String text) {
-        Fixtures.type(x, text);
-        return x;
-    }
-
     private static void fault(Supplier<BridgeRounds> map, String text, int due) {
-        CHECK.still("textFault() of '" + text + "'", () -> withText(map.get(), text), x -> x.textFault(), due);
+        CHECK.still("textFault() of '" + text + "'", () -> Fixtures.withText(map.get(), text), x -> x.textFault(), due);
         if (due != NONE) {
-            CHECK.still("lay() of '" + text + "'", () -> withText(map.get(), text), x -> x.lay(), BAD_STATE);
+            CHECK.still("lay() of '" + text + "'", () -> Fixtures.withText(map.get(), text), x -> x.lay(), BAD_STATE);
         }
     }
 
@@ -47,10 +42,10 @@ final class TextTest {
     private static void type() {
         for (int code : new int[] {-1, 256, MIN, MAX}) {
             CHECK.still("type(" + code + ")", BridgeRounds::new, x -> x.type(code), BAD_VALUE);
-            CHECK.still("full: type(" + code + ")", () -> withText(Fixtures.towns(2), " ".repeat(100)),
+            CHECK.still("full: type(" + code + ")", () -> Fixtures.withText(Fixtures.towns(2), " ".repeat(100)),
                     x -> x.type(code), BAD_VALUE);
         }
-        CHECK.still("full: type(32)", () -> withText(Fixtures.towns(2), " ".repeat(100)), x -> x.type(32), FULL);
+        CHECK.still("full: type(32)", () -> Fixtures.withText(Fixtures.towns(2), " ".repeat(100)), x -> x.type(32), FULL);
         BridgeRounds x = new BridgeRounds();
         for (int length = 1; length <= 100; length++) {
             CHECK.due("type() " + length, x.type(length == 1 ? 0 : 255), length);
@@ -68,7 +63,7 @@ final class TextTest {
     // Promise 33
     private static void clearText() {
         for (int length : new int[] {0, 1, 57, 100}) {
-            BridgeRounds x = withText(Fixtures.towns(2), "x".repeat(length));
+            BridgeRounds x = Fixtures.withText(Fixtures.towns(2), "x".repeat(length));
             CHECK.due("clearText()", x.clearText(), length);
             CHECK.due("clearText() again", x.clearText(), 0);
             CHECK.due("the fault of no text", x.textFault(), 0);
@@ -101,7 +96,7 @@ final class TextTest {
         // Bytes of a text that was longer are not there any more.
         String longer = "1-2:05b";
         for (int length = 0; length < longer.length(); length++) {
-            BridgeRounds x = withText(Fixtures.towns(5), longer);
+            BridgeRounds x = Fixtures.withText(Fixtures.towns(5), longer);
             x.clearText();
             Fixtures.type(x, longer.substring(0, length));
             CHECK.due("the first " + length + " bytes again", x.textFault(), length == 6 ? NONE : length == 5 ? 4 : length);
@@ -227,9 +222,9 @@ final class TextTest {
     // Promise 35
     private static void lay() {
         String text = " 3 - 0 : 07 b ; 1-2:99 ; 2-1:5b";
-        CHECK.recorded("lay()", () -> withText(Fixtures.towns(4), text), x -> x.lay(), 3);
-        CHECK.recorded("lay() more", () -> withText(Fixtures.bridges(2), text), x -> x.lay(), 11);
-        BridgeRounds x = withText(Fixtures.bridges(2), text);
+        CHECK.recorded("lay()", () -> Fixtures.withText(Fixtures.towns(4), text), x -> x.lay(), 3);
+        CHECK.recorded("lay() more", () -> Fixtures.withText(Fixtures.bridges(2), text), x -> x.lay(), 11);
+        BridgeRounds x = Fixtures.withText(Fixtures.bridges(2), text);
         x.pass(6);
         CHECK.due("lay()", x.lay(), 11);
         int[][] roads = {{3, 0, 7, 2}, {1, 2, 99, NONE}, {2, 1, 5, 3}};
@@ -245,7 +240,7 @@ final class TextTest {
             }
         }
         CHECK.due("no inspection", x.count(6), 0);
-        BridgeRounds y = withText(Fixtures.towns(4), text);
+        BridgeRounds y = Fixtures.withText(Fixtures.towns(4), text);
         y.lay();
         y.clearText();
         Fixtures.type(y, "3-0:07;1-2:99b");
@@ -264,9 +259,9 @@ final class TextTest {
 
     private static void layFaults() {
         CHECK.still("lay() of no text", () -> Fixtures.towns(3), x -> x.lay(), BAD_STATE);
-        CHECK.still("lay() of a text whose end is wrong", () -> withText(Fixtures.towns(3), "0-1:5b;1-2:5b;"),
+        CHECK.still("lay() of a text whose end is wrong", () -> Fixtures.withText(Fixtures.towns(3), "0-1:5b;1-2:5b;"),
                 x -> x.lay(), BAD_STATE);
-        CHECK.still("a fault by the map", () -> withText(Fixtures.roads(3, 19), "0-1:5;1-2:5"),
+        CHECK.still("a fault by the map", () -> Fixtures.withText(Fixtures.roads(3, 19), "0-1:5;1-2:5"),
                 x -> x.lay(), BAD_STATE);
     }
 }

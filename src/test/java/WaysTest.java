@@ -20,57 +20,46 @@ final class WaysTest {
         CHECK.end();
     }
 
-    /** The towns 0 to 3 around, the road 1 - 2 over a bridge with the post 20, and the town 4 alone. */
-    private static BridgeRounds ring() {
-        BridgeRounds x = Fixtures.towns(5);
-        x.addRoad(0, 1, 10);
-        x.addRoad(1, 2, 10);
-        x.addRoad(3, 2, 25);
-        x.addRoad(0, 3, 30);
-        Fixtures.bridgeOf(x, 1, 5);
-        return x;
-    }
-
     private static void errors() {
         for (int town : new int[] {-1, 5, 10, MIN, MAX}) {
-            CHECK.still("way from " + town, WaysTest::ring, x -> x.way(town, 0, 61), BAD_INDEX);
-            CHECK.still("way to " + town, WaysTest::ring, x -> x.way(0, town, 61), BAD_INDEX);
-            CHECK.still("wayTown from " + town, WaysTest::ring, x -> x.wayTown(town, 0, 61, -1), BAD_INDEX);
-            CHECK.still("wayTown to " + town, WaysTest::ring, x -> x.wayTown(0, town, 61, -1), BAD_INDEX);
-            CHECK.still("heaviest from " + town, WaysTest::ring, x -> x.heaviest(town, 0), BAD_INDEX);
-            CHECK.still("heaviest to " + town, WaysTest::ring, x -> x.heaviest(0, town), BAD_INDEX);
-            CHECK.still("heaviest to itself, " + town, WaysTest::ring, x -> x.heaviest(town, town), BAD_INDEX);
+            CHECK.still("way from " + town, Fixtures::ring, x -> x.way(town, 0, 61), BAD_INDEX);
+            CHECK.still("way to " + town, Fixtures::ring, x -> x.way(0, town, 61), BAD_INDEX);
+            CHECK.still("wayTown from " + town, Fixtures::ring, x -> x.wayTown(town, 0, 61, -1), BAD_INDEX);
+            CHECK.still("wayTown to " + town, Fixtures::ring, x -> x.wayTown(0, town, 61, -1), BAD_INDEX);
+            CHECK.still("heaviest from " + town, Fixtures::ring, x -> x.heaviest(town, 0), BAD_INDEX);
+            CHECK.still("heaviest to " + town, Fixtures::ring, x -> x.heaviest(0, town), BAD_INDEX);
+            CHECK.still("heaviest to itself, " + town, Fixtures::ring, x -> x.heaviest(town, town), BAD_INDEX);
         }
         for (int weight : new int[] {0, 61, -1, MIN, MAX}) {
-            CHECK.still("way with " + weight, WaysTest::ring, x -> x.way(0, 1, weight), BAD_VALUE);
-            CHECK.still("way to itself with " + weight, WaysTest::ring, x -> x.way(1, 1, weight), BAD_VALUE);
-            CHECK.still("wayTown with " + weight, WaysTest::ring, x -> x.wayTown(0, 1, weight, 0), BAD_VALUE);
-            CHECK.still("detour with " + weight, WaysTest::ring, x -> x.detour(0, weight), BAD_VALUE);
+            CHECK.still("way with " + weight, Fixtures::ring, x -> x.way(0, 1, weight), BAD_VALUE);
+            CHECK.still("way to itself with " + weight, Fixtures::ring, x -> x.way(1, 1, weight), BAD_VALUE);
+            CHECK.still("wayTown with " + weight, Fixtures::ring, x -> x.wayTown(0, 1, weight, 0), BAD_VALUE);
+            CHECK.still("detour with " + weight, Fixtures::ring, x -> x.detour(0, weight), BAD_VALUE);
         }
         for (int index : new int[] {-1, -2, MIN}) {
-            CHECK.still("wayTown, index " + index, WaysTest::ring, x -> x.wayTown(0, 1, 1, index), BAD_VALUE);
-            CHECK.still("wayTown without a way, index " + index, WaysTest::ring, x -> x.wayTown(0, 4, 1, index), BAD_VALUE);
+            CHECK.still("wayTown, index " + index, Fixtures::ring, x -> x.wayTown(0, 1, 1, index), BAD_VALUE);
+            CHECK.still("wayTown without a way, index " + index, Fixtures::ring, x -> x.wayTown(0, 4, 1, index), BAD_VALUE);
         }
         for (int bridge : new int[] {-1, 1, 6, MIN, MAX}) {
-            CHECK.still("detour(" + bridge + ", 0)", WaysTest::ring, x -> x.detour(bridge, 0), BAD_INDEX);
+            CHECK.still("detour(" + bridge + ", 0)", Fixtures::ring, x -> x.detour(bridge, 0), BAD_INDEX);
         }
         for (int town = 0; town < 5; town++) {
             int same = town;
-            CHECK.still("heaviest to itself", WaysTest::ring, x -> x.heaviest(same, same), BAD_STATE);
+            CHECK.still("heaviest to itself", Fixtures::ring, x -> x.heaviest(same, same), BAD_STATE);
         }
     }
 
     // Promise 19
     private static void way() {
-        CHECK.still("way(0, 2, 20)", WaysTest::ring, x -> x.way(0, 2, 20), 20);
-        CHECK.still("way(0, 2, 21)", WaysTest::ring, x -> x.way(0, 2, 21), 55);
-        CHECK.still("way(2, 0, 21)", WaysTest::ring, x -> x.way(2, 0, 21), 55);
-        CHECK.still("way(2, 0, 1)", WaysTest::ring, x -> x.way(2, 0, 1), 20);
-        CHECK.still("way(1, 2, 60)", WaysTest::ring, x -> x.way(1, 2, 60), 65);
-        CHECK.still("way(0, 4, 1)", WaysTest::ring, x -> x.way(0, 4, 1), NONE);
-        CHECK.still("way(4, 4, 60)", WaysTest::ring, x -> x.way(4, 4, 60), 0);
-        CHECK.still("way(1, 1, 60)", WaysTest::ring, x -> x.way(1, 1, 60), 0);
-        BridgeRounds closed = ring();
+        CHECK.still("way(0, 2, 20)", Fixtures::ring, x -> x.way(0, 2, 20), 20);
+        CHECK.still("way(0, 2, 21)", Fixtures::ring, x -> x.way(0, 2, 21), 55);
+        CHECK.still("way(2, 0, 21)", Fixtures::ring, x -> x.way(2, 0, 21), 55);
+        CHECK.still("way(2, 0, 1)", Fixtures::ring, x -> x.way(2, 0, 1), 20);
+        CHECK.still("way(1, 2, 60)", Fixtures::ring, x -> x.way(1, 2, 60), 65);
+        CHECK.still("way(0, 4, 1)", Fixtures::ring, x -> x.way(0, 4, 1), NONE);
+        CHECK.still("way(4, 4, 60)", Fixtures::ring, x -> x.way(4, 4, 60), 0);
+        CHECK.still("way(1, 1, 60)", Fixtures::ring, x -> x.way(1, 1, 60), 0);
+        BridgeRounds closed = Fixtures.ring();
         closed.close(0, true);
         CHECK.due("not over a closed bridge", closed.way(1, 2, 1), 65);
         // The longest way there is, with roads added from its end on.
@@ -114,12 +103,12 @@ final class WaysTest {
 
     // Promise 20
     private static void wayTown() {
-        CHECK.still("wayTown(0, 2, 20, 1)", WaysTest::ring, x -> x.wayTown(0, 2, 20, 1), 1);
-        CHECK.still("wayTown(0, 4, 20, 0)", WaysTest::ring, x -> x.wayTown(0, 4, 20, 0), NONE);
-        towns("a light one", ring(), 20, 0, 1, 2);
-        towns("a heavy one", ring(), 21, 0, 3, 2);
-        towns("back", ring(), 21, 1, 0, 3, 2);
-        towns("at one place", ring(), 60, 4);
+        CHECK.still("wayTown(0, 2, 20, 1)", Fixtures::ring, x -> x.wayTown(0, 2, 20, 1), 1);
+        CHECK.still("wayTown(0, 4, 20, 0)", Fixtures::ring, x -> x.wayTown(0, 4, 20, 0), NONE);
+        towns("a light one", Fixtures.ring(), 20, 0, 1, 2);
+        towns("a heavy one", Fixtures.ring(), 21, 0, 3, 2);
+        towns("back", Fixtures.ring(), 21, 1, 0, 3, 2);
+        towns("at one place", Fixtures.ring(), 60, 4);
         BridgeRounds line = Fixtures.towns(10);
         for (int town = 0; town < 9; town++) {
             line.addRoad(town + 1, town, 9);
@@ -164,8 +153,8 @@ final class WaysTest {
 
     // Promise 21
     private static void detour() {
-        CHECK.still("detour(0, 1)", WaysTest::ring, x -> x.detour(0, 1), 1055);
-        CHECK.still("detour(0, 60)", WaysTest::ring, x -> x.detour(0, 60), 1055);
+        CHECK.still("detour(0, 1)", Fixtures::ring, x -> x.detour(0, 1), 1055);
+        CHECK.still("detour(0, 60)", Fixtures::ring, x -> x.detour(0, 60), 1055);
         BridgeRounds x = Fixtures.towns(3);
         x.addRoad(0, 1, 99);
         x.addBridge(0);
@@ -197,9 +186,9 @@ final class WaysTest {
 
     // Promise 22
     private static void heaviest() {
-        CHECK.still("heaviest(0, 1)", WaysTest::ring, x -> x.heaviest(0, 1), 60);
-        CHECK.still("heaviest(1, 2), around", WaysTest::ring, x -> x.heaviest(1, 2), 60);
-        CHECK.still("heaviest(0, 4)", WaysTest::ring, x -> x.heaviest(0, 4), NONE);
+        CHECK.still("heaviest(0, 1)", Fixtures::ring, x -> x.heaviest(0, 1), 60);
+        CHECK.still("heaviest(1, 2), around", Fixtures::ring, x -> x.heaviest(1, 2), 60);
+        CHECK.still("heaviest(0, 4)", Fixtures::ring, x -> x.heaviest(0, 4), NONE);
         // Two ways: 40 then 7, or 20 then 12; the roads are added so that the greater load comes last.
         BridgeRounds x = Fixtures.towns(5);
         x.addRoad(3, 4, 10);

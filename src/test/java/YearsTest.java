@@ -96,41 +96,29 @@ final class YearsTest {
         CHECK.due("the other one is as it was", x.bridge(0, 3), 5);
     }
 
-    /** Two bridges that are due in the year 1 on a line of towns, 0 to 3, and open to nobody: 0 - 1 and 2 - 3. */
-    private static BridgeRounds line() {
-        BridgeRounds x = Fixtures.towns(4);
-        x.addRoad(0, 1, 20);
-        x.addRoad(2, 3, 20);
-        x.addRoad(1, 2, 21);
-        x.addBridge(0);
-        x.addBridge(1);
-        x.pass(1);
-        return x;
-    }
-
     // Promises 16 and 17: the errors
     private static void roundErrors() {
         for (int town : new int[] {-1, 4, 10, MIN, MAX}) {
-            CHECK.still("round(" + town + ", 5)", YearsTest::line, x -> x.round(town, 5), BAD_INDEX);
-            CHECK.still("round(" + town + ", 0)", YearsTest::line, x -> x.round(town, 0), BAD_INDEX);
-            CHECK.still("ofRound(" + town + ", 5, 0)", YearsTest::line, x -> x.ofRound(town, 5, 0), BAD_INDEX);
-            CHECK.still("ofRound(" + town + ", 0, -1)", YearsTest::line, x -> x.ofRound(town, 0, -1), BAD_INDEX);
+            CHECK.still("round(" + town + ", 5)", Fixtures::twoDue, x -> x.round(town, 5), BAD_INDEX);
+            CHECK.still("round(" + town + ", 0)", Fixtures::twoDue, x -> x.round(town, 0), BAD_INDEX);
+            CHECK.still("ofRound(" + town + ", 5, 0)", Fixtures::twoDue, x -> x.ofRound(town, 5, 0), BAD_INDEX);
+            CHECK.still("ofRound(" + town + ", 0, -1)", Fixtures::twoDue, x -> x.ofRound(town, 0, -1), BAD_INDEX);
         }
         for (int hours : new int[] {0, 201, -1, MIN, MAX}) {
-            CHECK.still("round(0, " + hours + ")", YearsTest::line, x -> x.round(0, hours), BAD_VALUE);
-            CHECK.still("ofRound(0, " + hours + ", 0)", YearsTest::line, x -> x.ofRound(0, hours, 0), BAD_VALUE);
+            CHECK.still("round(0, " + hours + ")", Fixtures::twoDue, x -> x.round(0, hours), BAD_VALUE);
+            CHECK.still("ofRound(0, " + hours + ", 0)", Fixtures::twoDue, x -> x.ofRound(0, hours, 0), BAD_VALUE);
         }
         for (int index : new int[] {-1, -2, MIN}) {
-            CHECK.still("ofRound(0, 5, " + index + ")", YearsTest::line, x -> x.ofRound(0, 5, index), BAD_VALUE);
+            CHECK.still("ofRound(0, 5, " + index + ")", Fixtures::twoDue, x -> x.ofRound(0, 5, index), BAD_VALUE);
         }
         for (int index : new int[] {2, 5, 6, 7, MAX}) {
-            CHECK.still("ofRound(1, 200, " + index + ")", YearsTest::line, x -> x.ofRound(1, 200, index), NONE);
+            CHECK.still("ofRound(1, 200, " + index + ")", Fixtures::twoDue, x -> x.ofRound(1, 200, index), NONE);
         }
-        CHECK.still("ofRound(1, 200, 0)", YearsTest::line, x -> x.ofRound(1, 200, 0), 0);
-        CHECK.still("ofRound(1, 200, 1)", YearsTest::line, x -> x.ofRound(1, 200, 1), 1);
-        CHECK.still("ofRound(3, 200, 0)", YearsTest::line, x -> x.ofRound(3, 200, 0), 1);
-        CHECK.recorded("round(1, 200)", YearsTest::line, x -> x.round(1, 200), 2);
-        CHECK.recorded("a round to nothing", YearsTest::line, x -> x.round(0, 1), 0);
+        CHECK.still("ofRound(1, 200, 0)", Fixtures::twoDue, x -> x.ofRound(1, 200, 0), 0);
+        CHECK.still("ofRound(1, 200, 1)", Fixtures::twoDue, x -> x.ofRound(1, 200, 1), 1);
+        CHECK.still("ofRound(3, 200, 0)", Fixtures::twoDue, x -> x.ofRound(3, 200, 0), 1);
+        CHECK.recorded("round(1, 200)", Fixtures::twoDue, x -> x.round(1, 200), 2);
+        CHECK.recorded("a round to nothing", Fixtures::twoDue, x -> x.round(0, 1), 0);
         CHECK.recorded("a round without bridges", () -> Fixtures.towns(1), x -> x.round(0, 200), 0);
     }
 
@@ -138,7 +126,7 @@ final class YearsTest {
     private static void roundHours() {
         for (int hours = 1; hours <= 200; hours++) {
             int fit = hours < 4 ? 0 : hours < 11 ? 1 : 2;
-            BridgeRounds x = line();
+            BridgeRounds x = Fixtures.twoDue();
             CHECK.due("ofRound(1, " + hours + ", 0)", x.ofRound(1, hours, 0), fit > 0 ? 0 : NONE);
             CHECK.due("ofRound(1, " + hours + ", 1)", x.ofRound(1, hours, 1), fit > 1 ? 1 : NONE);
             CHECK.due("round(1, " + hours + ")", x.round(1, hours), fit);
